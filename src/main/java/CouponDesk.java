@@ -295,8 +295,8 @@ public final class CouponDesk {
     }
 
     private void needCoupons(int set) {
-        // The unsigned shift keeps the highest bit in sight: a negative number is no set of coupons.
-        if (set >>> couponCount != 0) {
+        // A negative number has the highest bit, and there is no coupon of that number.
+        if (set < 0 || set >= 1 << couponCount) {
             throw new IllegalArgumentException("the set contains something that is no coupon");
         }
     }

@@ -413,6 +413,15 @@ public final class PromisesTest {
         due("less than one for each, article 0", 44, () -> y.rest(4, 0));
         due("less than one for each, article 1", 9, () -> y.rest(4, 1));
 
+        CouponDesk w = new CouponDesk();
+        w.addArticle(10, 1);
+        w.addArticle(7, 0);
+        w.put(0, 1);
+        w.put(1, 2);
+        w.addCoupon(1, 1, 1, 0, 0);
+        due("what is missing is not taken from others", 10, () -> w.rest(1, 0));
+        due("what is missing is taken from the first that matches", 13, () -> w.rest(1, 1));
+
         CouponDesk z = new CouponDesk();
         for (int k = 0; k < 10; k++) {
             z.addArticle(10000, 7);
@@ -556,6 +565,7 @@ public final class PromisesTest {
         refused("a piece that is not there", x, ARGUMENT, () -> x.giveBack(0, 0, 1));
         giveBackNothing();
         giveBackWithoutUses();
+        giveBackOfOneCategory();
     }
 
     private static void refuseGiveBack(CouponDesk x) {
@@ -571,6 +581,19 @@ public final class PromisesTest {
             refused("giveBack(0, 0, " + bad + ")", x, ARGUMENT, () -> x.giveBack(0, 0, bad));
         }
         refused("an article that the order has not", x, ARGUMENT, () -> x.giveBack(0, 2, 1));
+    }
+
+    private static void giveBackOfOneCategory() {
+        CouponDesk x = new CouponDesk();
+        x.addArticle(100, 5);
+        x.addArticle(10, 0);
+        x.put(0, 2);
+        x.put(1, 1);
+        x.addCoupon(0, 10, 32, 0, 0);
+        x.buy(1);
+        due("the coupon takes off its category alone", 10, () -> x.giveBack(0, 1, 1));
+        due("and goes on to match it", 90, () -> x.giveBack(0, 0, 1));
+        due("it still acts", 1, () -> x.order(0, 2));
     }
 
     private static void giveBackNothing() {
